@@ -875,7 +875,6 @@ public final class IntercompanyLedger {
             int item = now.items;
             now.putPair(item, NONE, OPEN);
             now.amount[item] = itsAmount;
-            now.settled[item] = 0;
             now.booked[item] = valueOf(item);
             now.items++;
         }

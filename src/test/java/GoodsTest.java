@@ -112,6 +112,16 @@ public final class GoodsTest {
         Check.same("a gap stays when the lot is gone", x.gap(7), 100);
         x.deliver(1, 1, 0, 2, 7);
         Check.same("a band of one price", x.gap(8), 0);
+        IntercompanyLedger y = Ledgers.of(TWO_PRODUCTS);
+        y.deliver(0, 0, 1, 2, 100);
+        Check.same("the first delivery counts", y.gapsOf(0), -20);
+        Check.same("the first delivery counts", y.gapsOf(1), 20);
+        y.undo();
+        Check.same("undone", y.gapsOf(1), 0);
+        Check.same("undone", y.unrealized(1), 0);
+        Check.sameFloat("undone", y.averageMargin(1), 0.0f);
+        Check.same("undone", y.total(7), 0);
+        Check.same("undone", y.oldestPrice(1, 0), NONE);
         Check.noIndex("gap 9", () -> x.gap(9));
         Check.noIndex("gap -1", () -> x.gap(-1));
         Check.noIndex("gapsOf 3", () -> x.gapsOf(3));

@@ -80,6 +80,37 @@ public final class GroupTest {
         Check.same("size after an error", x.size(1), 1);
     }
 
+    private static void cutTexts() {
+        IntercompanyLedger x = new IntercompanyLedger();
+        Ledgers.append(x, "fee 12;");
+        Check.same("cut within a number", x.parse(5), Ledgers.error(5, 1));
+        Ledgers.append(x, "fee 12;");
+        Check.same("cut within a word", x.parse(2), Ledgers.error(0, 1));
+        Ledgers.append(x, "currency 12345;");
+        Check.same("cut before too many digits", x.parse(13), Ledgers.error(13, 1));
+        Ledgers.append(x, " ".repeat(595) + "fee 1");
+        Check.same("a number up to the last byte", x.parse(600), Ledgers.error(600, 1));
+        Ledgers.append(x, " ".repeat(597) + "fee");
+        Check.same("a word up to the last byte", x.parse(600), Ledgers.error(600, 1));
+        Ledgers.append(x, "\n".repeat(594) + "fee 1;");
+        Check.same("a full buffer", x.parse(600), 0);
+    }
+
+    private static void textAfterText() {
+        IntercompanyLedger x = new IntercompanyLedger();
+        String text = "currency 1;company 0;center 0;tolerance 1;fee 1;";
+        Check.same("first", Ledgers.parse(x, text), 1);
+        Check.same("second", Ledgers.parse(x, text), 1);
+        Check.same("error", Ledgers.parse(x, text + "fee"), Ledgers.error(48, 2));
+        Check.same("after an error", Ledgers.parse(x, text), 1);
+        Check.same("error in a product", Ledgers.parse(x, "currency 1;company 0;product 0 1 0 0;x"), Ledgers.error(37, 1));
+        Check.same("after it", Ledgers.parse(x, "currency 2;company 0;company 0;product 1 5 0 0;"), 2);
+        Check.same("currencies", x.size(0), 1);
+        Check.same("products", x.size(2), 1);
+        Check.same("rate", x.rate(0), 2);
+        Check.same("maker", x.product(0, 0), 1);
+    }
+
     private static void goodTexts() {
         text("", 0);
         text("  \n ", 0);
@@ -211,10 +242,11 @@ public final class GroupTest {
         Check.same("slot 0", x.restoreSnapshot(0), false);
         Check.same("slot 1", x.restoreSnapshot(1), false);
         Check.same("tolerance without a statement", x.setTolerance(1), 0);
-        x.book(1, 0, 0, 1, 1000);
-        x.book(0, 1, 1, 1, 1000);
+        Ledgers.parse(x, "currency 3;company 0;company 0;company 0;");
+        x.book(1, 2, 0, 1, 1000);
+        x.book(2, 1, 1, 1, 1000);
         x.match();
-        Check.same("the center without a statement is company 0", x.net(), 1);
+        Check.same("the center without a statement is company 0", x.net(), 2);
         Check.same("the fee without a statement", x.total(5), 0);
     }
 
@@ -273,6 +305,8 @@ public final class GroupTest {
         newObject();
         append();
         parseLength();
+        cutTexts();
+        textAfterText();
         goodTexts();
         syntaxErrors();
         repeated();

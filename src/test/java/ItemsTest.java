@@ -198,6 +198,55 @@ public final class ItemsTest {
         Check.same("matched", y.item(0, 4), 1);
     }
 
+    private static void receivablesChoose() {
+        IntercompanyLedger x = Ledgers.of("currency 100;company 0;company 0;");
+        x.book(1, 0, 1, 5, 105);
+        x.book(0, 1, 0, 5, 100);
+        x.book(0, 1, 0, 5, 105);
+        Check.same("the lower receivable takes the only payable", x.wouldPair(1), 0);
+        Check.same("though it would fit the other", x.wouldPair(2), NONE);
+        Check.same("tolerance", x.toleranceNeeded(), 5);
+        Check.same("match", x.match(), 1);
+        Check.same("pair", x.item(0, 5), 1);
+        Check.same("left over", x.item(2, 4), 0);
+    }
+
+    /** Rows that were undone must not be seen, and full rows must be seen to the last. */
+    private static void rowsAtTheEnd() {
+        IntercompanyLedger x = Ledgers.of(Ledgers.THREE);
+        String empty = Picture.of(x);
+        x.deliver(0, 0, 1, 10, 500);
+        x.book(0, 1, 0, 5, 1000);
+        x.book(1, 0, 1, 5, 2000);
+        x.match();
+        for (int i = 0; i < 4; i++) {
+            x.undo();
+        }
+        Check.sameText("undone rows", Picture.of(x), empty);
+        x.book(0, 1, 0, 5, 1000);
+        Check.same("an undone payable is no candidate", x.candidates(0), 0);
+        Check.same("an undone payable is not paired", x.wouldPair(0), NONE);
+        Check.same("an undone payable is not matched", x.match(), 0);
+        x.undo();
+        x.undo();
+        while (x.size(3) < 98) {
+            x.book(0, 2, 0, 1, 1);
+        }
+        x.book(0, 1, 0, 5, 1000);
+        x.book(1, 0, 1, 5, 1980);
+        Check.same("the last candidate", x.candidates(98), 1);
+        Check.same("the last pair", x.wouldPair(98), 99);
+        Check.same("tolerance", x.toleranceNeeded(), 10);
+        Check.same("match", x.match(), 1);
+        Check.same("position", x.position(1), -1000);
+        Check.same("balance", x.balance(0, 1), 10);
+        Check.same("total", x.total(0), 108);
+        Check.same("payments", x.directPayments() + x.fewestPayments(), 2);
+        Check.same("net", x.net(), 2);
+        Check.same("rounding", x.total(4), 10);
+        Check.sameFloat("rate", x.matchRate(), 1.0f);
+    }
+
     private static void matchRates() {
         IntercompanyLedger x = Ledgers.of("currency 100;company 0;company 0;");
         Check.sameFloat("none", x.matchRate(), 0.0f);
@@ -246,6 +295,8 @@ public final class ItemsTest {
         Check.same("present values", x.balance(0, 1), -980);
         x.net();
         Check.same("settled does not count", x.balance(0, 1), 0);
+        x.book(0, 1, 0, 8, 44);
+        Check.same("an open item behind settled ones", x.balance(0, 1), 44);
         Check.noIndex("balance 3 0", () -> x.balance(3, 0));
         Check.noIndex("balance 0 3", () -> x.balance(0, 3));
         Check.noIndex("balance -1 0", () -> x.balance(-1, 0));
@@ -294,6 +345,8 @@ public final class ItemsTest {
         candidates();
         wouldPair();
         lowestOfSeveral();
+        receivablesChoose();
+        rowsAtTheEnd();
         matchRates();
         balances();
         totals();

@@ -114,6 +114,27 @@ public final class NettingTest {
         Check.same("settled does not count", x.directPayments(), 0);
     }
 
+    private static void payablesDoNotCount() {
+        IntercompanyLedger x = Ledgers.of("currency 100;company 0;company 0;tolerance 5;");
+        x.book(0, 1, 0, 1, 100);
+        x.book(1, 0, 1, 1, 103);
+        x.book(1, 0, 0, 2, 100);
+        x.book(0, 1, 1, 2, 100);
+        x.match();
+        Check.same("the receivables are even", x.directPayments(), 0);
+        Check.same("the receivables are even", x.fewestPayments(), 0);
+        Check.same("no payment", x.net(), 0);
+        Check.same("the rounding account has the rest", x.total(4), -3);
+        x.book(0, 1, 0, 1, 100);
+        x.book(1, 0, 1, 1, 103);
+        x.book(1, 0, 0, 2, 101);
+        x.book(0, 1, 1, 2, 103);
+        x.match();
+        Check.same("the payables are even", x.directPayments(), 1);
+        Check.same("position", x.position(0), -1);
+        Check.same("one payment", x.net(), 1);
+    }
+
     private static void fewest(int due, int[]... debts) {
         IntercompanyLedger x = Ledgers.of(SIX);
         StringBuilder told = new StringBuilder();
@@ -145,6 +166,7 @@ public final class NettingTest {
         net();
         evenPositions();
         directPayments();
+        payablesDoNotCount();
         fewestPayments();
         Check.end();
     }

@@ -114,6 +114,38 @@ public final class UndoTest {
         Check.sameText("in place of what it held", Picture.of(x), third);
     }
 
+    /** What a slot holds must come back even if other rows were put at the same numbers. */
+    private static void otherRowsInBetween() {
+        IntercompanyLedger x = Ledgers.of(Ledgers.THREE + "product 1 50 0 0;");
+        x.book(0, 1, 0, 5, 1000);
+        x.book(1, 0, 1, 5, 2000);
+        x.match();
+        x.net();
+        x.deliver(0, 0, 1, 7, 125);
+        String saved = Picture.of(x);
+        x.saveSnapshot(1);
+        for (int left = 4; left >= 0; left--) {
+            Check.same("undo", x.undo(), left);
+        }
+        x.book(1, 2, 1, 9, 80);
+        x.book(2, 1, 0, 9, 40);
+        x.match();
+        x.net();
+        x.deliver(1, 1, 2, 8, 55);
+        String other = Picture.of(x);
+        x.saveSnapshot(0);
+        x.restoreSnapshot(1);
+        Check.sameText("slot 1", Picture.of(x), saved);
+        Check.same("settled value", x.value(0), 1000);
+        Check.same("gap", x.gap(0), 0);
+        x.restoreSnapshot(0);
+        Check.sameText("slot 0", Picture.of(x), other);
+        Check.same("settled value", x.value(0), 40);
+        Check.same("gap", x.gap(0), 40);
+        Check.same("gaps", x.gapsOf(1), 40);
+        Check.same("stock", x.stock(2, 1), 8);
+    }
+
     private static void failedRestoreKeeps() {
         IntercompanyLedger x = Ledgers.of(Ledgers.THREE);
         x.setTolerance(5);
@@ -155,6 +187,7 @@ public final class UndoTest {
         refusedIsNoChange();
         everyChangeIsUndone();
         snapshots();
+        otherRowsInBetween();
         failedRestoreKeeps();
         snapshotWithSums();
         Check.end();
