@@ -867,7 +867,7 @@ public final class IntercompanyLedger {
 
         void startWith(Group newGroup) {
             group.copyFrom(newGroup);
-            now.startWith(newGroup);
+            now.startWith(group);
         }
 
         /** Opens the item whose row was put behind the others. */

@@ -161,6 +161,8 @@ public final class GoodsTest {
         Check.same("undo", x.undo(), 9);
         Check.same("there is room again", x.deliver(0, 0, 1, 7, 9), 99);
         Check.same("stock", x.stock(1, 0), 1 + 96 + 7);
+        Check.same("a sale from 100 lots", x.sell(1, 0, 104, 100), 0);
+        Check.same("stock", x.stock(1, 0), 0);
     }
 
     private static void sell() {

@@ -121,7 +121,7 @@ public final class UndoTest {
         x.book(1, 0, 1, 5, 2000);
         x.match();
         x.net();
-        x.deliver(0, 0, 1, 7, 125);
+        x.deliver(0, 0, 1, 7, 150);
         String saved = Picture.of(x);
         x.saveSnapshot(1);
         for (int left = 4; left >= 0; left--) {
@@ -137,7 +137,8 @@ public final class UndoTest {
         x.restoreSnapshot(1);
         Check.sameText("slot 1", Picture.of(x), saved);
         Check.same("settled value", x.value(0), 1000);
-        Check.same("gap", x.gap(0), 0);
+        Check.same("gap", x.gap(0), 140);
+        Check.same("gaps", x.gapsOf(0), 140);
         x.restoreSnapshot(0);
         Check.sameText("slot 0", Picture.of(x), other);
         Check.same("settled value", x.value(0), 40);
