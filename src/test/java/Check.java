@@ -1,3 +1,5 @@
+import java.util.function.IntConsumer;
+
 /** Counts the answers that are not as due; a test ends with exit code 1 if there was one. */
 final class Check {
     private static int wrong = 0;
@@ -58,6 +60,20 @@ final class Check {
 
     static void noState(String call, Runnable run) {
         refused(call, IllegalStateException.class, run);
+    }
+
+    /** Tries numbers below 0 and behind the last of the things that exist. */
+    static void noSuch(String call, int number, IntConsumer run) {
+        for (int index : new int[] {-1, number, number + 1, Integer.MAX_VALUE, Integer.MIN_VALUE}) {
+            noIndex(call + " of " + index, () -> run.accept(index));
+        }
+    }
+
+    /** Tries arguments on both sides of a range, near to it and far from it. */
+    static void outOfRange(String call, int lowest, int highest, IntConsumer run) {
+        for (int argument : new int[] {lowest - 1, highest + 1, Integer.MAX_VALUE, Integer.MIN_VALUE}) {
+            noArgument(call + " with " + argument, () -> run.accept(argument));
+        }
     }
 
     static void tell(String what) {
