@@ -226,6 +226,22 @@ final class ChangeEdges {
         }
     }
 
+    private static void payablesBeforeReceivables() {
+        Document.says(TEXT, "(of several the one with the lowest number)");
+        IntercompanyLedger x = Ledgers.of(TWO);
+        x.book(1, 0, 1, 1, 99);
+        x.book(1, 0, 1, 1, 101);
+        x.book(1, 0, 1, 1, 102);
+        x.book(0, 1, 0, 1, 100);
+        x.book(0, 1, 0, 1, 100);
+        Check.same("item 0 is the lowest", x.wouldPair(3), 0);
+        Check.same("the next has the next", x.wouldPair(4), 1);
+        Check.same("two pairs", x.match(), 2);
+        Check.same("item 0 is the lowest", x.item(0, 5), 3);
+        Check.same("the next has the next", x.item(1, 5), 4);
+        Check.same("the third is left", x.item(2, 5), NONE);
+    }
+
     private static void differenceOfValues() {
         Document.says(TEXT, "the absolute difference of their values is the smallest");
         IntercompanyLedger x = Ledgers.of("currency 100;currency 50;company 0;company 1;");
@@ -396,6 +412,20 @@ final class ChangeEdges {
         Check.same("no change", z.undo(), 2);
     }
 
+    /** The first accepted amount is chosen so that the second one is the least that is too large. */
+    private static void newAmountJustTooLarge() {
+        Document.says(34, "or greater than 1000000000");
+        IntercompanyLedger x = disputed(19, 9928, 1, 106959);
+        Check.same("10618889 * 100 / 19", x.accept(1), 55888889);
+        x.release(1);
+        x.setRate(0, 9000);
+        x.setRate(1, 503);
+        x.match();
+        Check.same("the value that is accepted", x.value(0), 5030000010L);
+        Check.noState("5030000010 * 100 / 503 is 1000000001", () -> x.accept(0));
+        Check.same("the amount stays", x.amount(1), 106959);
+    }
+
     // ---- promise 35
 
     private static void leastAndMostRate() {
@@ -500,6 +530,7 @@ final class ChangeEdges {
         fiftyPairs();
         ascendingReceivables();
         smallestDifference();
+        payablesBeforeReceivables();
         differenceOfValues();
         atMostTheTolerance();
         highestTolerance();
@@ -516,6 +547,7 @@ final class ChangeEdges {
         acceptNotDisputed();
         newAmountTooSmall();
         newAmountTooLarge();
+        newAmountJustTooLarge();
         leastAndMostRate();
         statesStay();
         rateOfNone();

@@ -446,6 +446,29 @@ final class ItemEdges {
         }
     }
 
+    private static void totalsOfFirstAndLast() {
+        Document.says(18, "likewise of open items alone; 2: of matched items alone; 3: of disputed items alone");
+        IntercompanyLedger x = Ledgers.of(TWO);
+        x.book(1, 0, 1, 7, 1000000);
+        Check.same("a payable alone", x.total(0), -1000000);
+        Check.same("open", x.total(1), -1000000);
+        for (int item = 1; item < 99; item++) {
+            x.book(0, 1, 0, 8, 1);
+        }
+        x.book(0, 1, 0, 7, 1000000);
+        Check.same("the first and the last", x.total(0), 98);
+        Check.same("open", x.total(1), 98);
+        x.match();
+        Check.same("open ones in between", x.total(1), 98);
+        Check.same("matched, the first and the last", x.total(2), 0);
+        x.undo();
+        x.undo();
+        x.book(0, 1, 0, 7, 999999);
+        x.match();
+        Check.same("matched", x.total(2), 0);
+        Check.same("disputed, the first and the last", x.total(3), -1);
+    }
+
     private static void totalOutOfRange() {
         Document.says(18, "if what is out of range");
         Check.outOfRange("total", 0, 7, Twins.busy()::total);
@@ -487,6 +510,7 @@ final class ItemEdges {
         balanceOfTheSame();
         balanceOfNone();
         totals();
+        totalsOfFirstAndLast();
         totalOutOfRange();
     }
 }

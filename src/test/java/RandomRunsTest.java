@@ -1,7 +1,3 @@
-import java.lang.reflect.InvocationTargetException;
-import java.lang.reflect.Method;
-import java.util.Arrays;
-import java.util.Comparator;
 import java.util.Random;
 
 /** Runs of 512 calls with a fixed seed: the program must answer as ReferenceLedger does. */
@@ -13,64 +9,16 @@ public final class RandomRunsTest {
     private static final String[] WORDS = {"currency", "company", "product", "tolerance", "center", "fee"};
 
     private final Random random;
-    private final IntercompanyLedger program = new IntercompanyLedger();
-    private final ReferenceLedger reference = new ReferenceLedger();
-    private final StringBuilder run = new StringBuilder();
-    private boolean apart = false;
-    private int calls = 0;
+    private final SideBySide both = new SideBySide();
 
     private RandomRunsTest(long seed) {
         random = new Random(seed);
     }
 
-    private static String answer(Method method, Object object, Object[] arguments) {
-        try {
-            return String.valueOf(method.invoke(object, arguments));
-        } catch (InvocationTargetException e) {
-            return "throws." + e.getCause().getClass().getName();
-        } catch (IllegalAccessException e) {
-            throw new AssertionError(e);
+    private void call(String name, Object... arguments) {
+        if (both.calls() < CALLS) {
+            both.call(name, arguments);
         }
-    }
-
-    private void call(Method method, Object... arguments) {
-        if (apart || calls >= CALLS) {
-            return;
-        }
-        calls++;
-        try {
-            Method mirror = ReferenceLedger.class.getDeclaredMethod(method.getName(), method.getParameterTypes());
-            String got = answer(method, program, arguments);
-            String due = answer(mirror, reference, arguments);
-            String told = method.getName() + Arrays.toString(arguments);
-            run.append(told).append(" -> ").append(due).append('\n');
-            Check.sameText(told, got, due);
-            if (!got.equals(due)) {
-                apart = true;
-                System.out.println(run);
-            }
-        } catch (NoSuchMethodException e) {
-            throw new AssertionError(e);
-        }
-    }
-
-    private static final Method[] FACE = face();
-
-    private static Method[] face() {
-        Method[] methods = Arrays.stream(IntercompanyLedger.class.getDeclaredMethods())
-                .filter(m -> java.lang.reflect.Modifier.isPublic(m.getModifiers())).toArray(Method[]::new);
-        // The machine lists methods in no fixed order, but the runs shall be the same each time.
-        Arrays.sort(methods, Comparator.comparing(Method::getName));
-        return methods;
-    }
-
-    private static Method named(String name) {
-        for (Method method : FACE) {
-            if (method.getName().equals(name)) {
-                return method;
-            }
-        }
-        throw new AssertionError(name);
     }
 
     private String goodText() {
@@ -127,11 +75,11 @@ public final class RandomRunsTest {
 
     private void text(String text) {
         byte[] bytes = text.getBytes(java.nio.charset.StandardCharsets.ISO_8859_1);
-        for (int at = 0; at < bytes.length; at += 20) {
-            call(named("append"), Ledgers.word(bytes, at), Ledgers.word(bytes, at + 4), Ledgers.word(bytes, at + 8),
-                    Ledgers.word(bytes, at + 12), Ledgers.word(bytes, at + 16));
+        if (both.calls() + bytes.length / 20 + 2 > CALLS) {
+            return;
         }
-        call(named("parse"), random.nextInt(30) == 0 ? random.nextInt(700) - 10 : Math.min(bytes.length, 600));
+        both.append(bytes);
+        call("parse", random.nextInt(30) == 0 ? random.nextInt(700) - 10 : Math.min(bytes.length, 600));
     }
 
     /** Arguments that mostly mean something, with the edges among them. */
@@ -141,10 +89,10 @@ public final class RandomRunsTest {
                 Integer.MAX_VALUE, Integer.MIN_VALUE};
             return edges[random.nextInt(edges.length)];
         }
-        int companies = Math.max(1, reference.size(1));
-        int products = Math.max(1, reference.size(2));
-        int items = Math.max(1, reference.size(3));
-        int deliveries = Math.max(1, reference.size(4));
+        int companies = Math.max(1, both.reference.size(1));
+        int products = Math.max(1, both.reference.size(2));
+        int items = Math.max(1, both.reference.size(3));
+        int deliveries = Math.max(1, both.reference.size(4));
         return switch (name) {
             case "size" -> random.nextInt(5);
             case "total" -> random.nextInt(8);
@@ -161,7 +109,7 @@ public final class RandomRunsTest {
                     : place == 3 ? 1 + random.nextInt(30) : 1 + random.nextInt(400);
             case "sell" -> place == 0 ? random.nextInt(companies) : place == 1 ? random.nextInt(products)
                     : place == 2 ? 1 + random.nextInt(20) : 1 + random.nextInt(400);
-            case "setRate" -> place == 0 ? random.nextInt(Math.max(1, reference.size(0)))
+            case "setRate" -> place == 0 ? random.nextInt(Math.max(1, both.reference.size(0)))
                     : random.nextInt(6) == 0 ? 1 + random.nextInt(9999) : 80 + random.nextInt(40);
             case "setTolerance" -> random.nextInt(200);
             case "saveSnapshot", "restoreSnapshot" -> random.nextInt(2);
@@ -172,13 +120,8 @@ public final class RandomRunsTest {
     private void step(int changesOfTen) {
         String[] changes = {"book", "book", "book", "book", "book", "deliver", "deliver", "deliver", "sell", "cancel",
             "match", "release", "accept", "setRate", "setTolerance", "net", "undo"};
-        Method method;
-        if (random.nextInt(10) < changesOfTen) {
-            method = named(changes[random.nextInt(changes.length)]);
-        } else {
-            method = FACE[random.nextInt(FACE.length)];
-        }
-        String name = method.getName();
+        String name = random.nextInt(10) < changesOfTen ? changes[random.nextInt(changes.length)]
+                : SideBySide.FACE[random.nextInt(SideBySide.FACE.length)].getName();
         if (name.equals("append") || name.equals("parse")) {
             if (random.nextInt(8) == 0) {
                 text(random.nextInt(6) == 0 ? goodText() : oddText());
@@ -188,17 +131,17 @@ public final class RandomRunsTest {
         if (name.equals("restoreSnapshot") && random.nextInt(3) != 0) {
             return;
         }
-        Object[] arguments = new Object[method.getParameterCount()];
+        Object[] arguments = new Object[SideBySide.parameters(name)];
         for (int place = 0; place < arguments.length; place++) {
             arguments[place] = argument(name, place);
         }
-        call(method, arguments);
+        call(name, arguments);
     }
 
     private void go() {
         text(random.nextInt(10) == 0 ? oddText() : goodText());
         int changesOfTen = random.nextInt(10);
-        for (int i = 0; i < 4 * CALLS && calls < CALLS && !apart; i++) {
+        for (int i = 0; i < 4 * CALLS && both.calls() < CALLS && !both.isApart(); i++) {
             step(changesOfTen);
         }
     }
@@ -207,7 +150,7 @@ public final class RandomRunsTest {
         for (int i = 0; i < 20000; i++) {
             RandomRunsTest test = new RandomRunsTest(1000000L + i);
             test.text(test.oddText());
-            test.call(named("size"), 2);
+            test.call("size", 2);
         }
     }
 

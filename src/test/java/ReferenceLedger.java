@@ -3,6 +3,7 @@ import java.util.ArrayList;
 import java.util.Arrays;
 import java.util.Deque;
 import java.util.List;
+import java.util.Set;
 import java.util.regex.Matcher;
 import java.util.regex.Pattern;
 
@@ -12,6 +13,10 @@ import java.util.regex.Pattern;
  * the program against it.
  */
 final class ReferenceLedger {
+
+    /** The methods from book to sell. */
+    static final Set<String> CHANGES = Set.of("book", "cancel", "match", "release", "accept", "setRate", "setTolerance",
+            "net", "deliver", "sell");
 
     private static final class Item {
         int company;

@@ -310,21 +310,39 @@ final class UndoEdges {
         Check.sameText("the other slot did not touch it", Picture.of(x), before);
     }
 
-    private static void snapshotBehindAnUndo() {
+    /** Each of two slots has other rows at the same numbers, so nothing of the one may be left in the other. */
+    private static void otherRowsInEachSlot() {
         Document.says(42, "Restores a snapshot");
-        IntercompanyLedger x = Ledgers.of(Ledgers.THREE);
+        IntercompanyLedger x = Ledgers.of(Ledgers.THREE + "product 1 50 0 0;");
         x.book(0, 1, 0, 5, 1000);
-        x.deliver(0, 0, 1, 5, 150);
-        String before = Picture.of(x);
+        x.book(1, 0, 1, 5, 1990);
+        x.match();
+        x.net();
+        x.deliver(0, 0, 2, 5, 150);
+        String first = Picture.of(x);
         x.saveSnapshot(0);
-        x.undo();
-        x.undo();
-        x.book(2, 1, 1, 6, 7);
-        x.deliver(0, 0, 2, 8, 90);
-        x.restoreSnapshot(0);
-        Check.sameText("other rows had its numbers", Picture.of(x), before);
-        Check.same("properties", x.item(0, 3), 5);
-        Check.same("the giver's gaps", x.gapsOf(0), 100);
+        for (int change = 0; change < 5; change++) {
+            x.undo();
+        }
+        x.book(2, 1, 1, 6, 12);
+        x.book(1, 2, 0, 6, 14);
+        x.match();
+        x.net();
+        x.deliver(1, 1, 0, 8, 45);
+        String second = Picture.of(x);
+        x.saveSnapshot(1);
+        for (int time = 0; time < 2; time++) {
+            x.restoreSnapshot(0);
+            Check.sameText("slot 0", Picture.of(x), first);
+            Check.same("the settled value", x.value(1), 995);
+            Check.same("the giver", x.gapsOf(0), 100);
+            Check.same("the product", x.stock(2, 0), 5);
+            x.restoreSnapshot(1);
+            Check.sameText("slot 1", Picture.of(x), second);
+            Check.same("the settled value", x.value(1), 7);
+            Check.same("the giver", x.gapsOf(1), -40);
+            Check.same("the product", x.stock(0, 1), 8);
+        }
     }
 
     // ---- the limit of an object's use
@@ -357,7 +375,7 @@ final class UndoEdges {
         emptyAndMissingSlots();
         historyIsCleared();
         snapshotStays();
-        snapshotBehindAnUndo();
+        otherRowsInEachSlot();
         fiveHundredAndTwelveCalls();
     }
 }
