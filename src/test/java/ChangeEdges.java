@@ -30,12 +30,51 @@ final class ChangeEdges {
 
     // ---- promise 30
 
+    private static void sides() {
+        Document.says(30, "`side`: 0 receivable, 1 payable");
+        IntercompanyLedger x = Ledgers.of(TWO);
+        x.book(0, 1, 0, 5, 10);
+        x.book(0, 1, 1, 5, 3);
+        Check.same("a receivable", x.item(0, 2), 0);
+        Check.same("a payable", x.item(1, 2), 1);
+        Check.same("a receivable less a payable", x.total(0), 7);
+    }
+
+    private static void leastAndMostReference() {
+        Document.says(30, "`reference`: 0 to 999");
+        IntercompanyLedger x = Ledgers.of(TWO);
+        for (int reference : new int[] {0, 999}) {
+            int item = x.book(0, 1, 0, reference, 10);
+            x.book(1, 0, 1, reference, 10);
+            Check.same("reference", x.item(item, 3), reference);
+            Check.same("its own mirror alone", x.candidates(item), 1);
+        }
+    }
+
+    private static void leastAndMostAmount() {
+        Document.says(30, "`amount`: 1 to 1000000");
+        IntercompanyLedger x = Ledgers.of(TWO);
+        x.book(0, 1, 0, 5, 1);
+        x.book(0, 1, 0, 5, 1000000);
+        Check.same("the least", x.amount(0), 1);
+        Check.same("the least value", x.value(0), 1);
+        Check.same("the most", x.amount(1), 1000000);
+        Check.same("the most value", x.value(1), 1000000);
+    }
+
+    private static void firstToLastItem() {
+        Document.says(30, "Returns the number of the item.");
+        IntercompanyLedger x = Ledgers.of(TWO);
+        for (int item = 0; item < 100; item++) {
+            Check.same("item", x.book(0, 1, 0, 5, 1), item);
+            if (item == 50) {
+                x.cancel(50);
+            }
+        }
+    }
+
     private static void leastAndMostBooked() {
         Document.says(30, "Books an item.");
-        Document.says(30, "0 receivable, 1 payable");
-        Document.says(30, "0 to 999");
-        Document.says(30, "1 to 1000000");
-        Document.says(30, "Returns the number of the item.");
         IntercompanyLedger x = Ledgers.of(TWO);
         Check.same("the least", x.book(0, 1, 0, 0, 1), 0);
         Check.same("the most", x.book(1, 0, 1, 999, 1000000), 1);
@@ -162,7 +201,6 @@ final class ChangeEdges {
 
     private static void matchWithoutPairs() {
         Document.says(32, "It is a change even if no pair is formed.");
-        Document.says(32, "@return the number of pairs that were formed");
         IntercompanyLedger x = new IntercompanyLedger();
         Check.same("no company", x.match(), 0);
         Check.same("a change", x.undo(), 0);
@@ -182,6 +220,22 @@ final class ChangeEdges {
             Check.same("ten empty runs", z.undo(), left);
         }
         Check.same("the oldest change fell out", z.setTolerance(1), 5);
+    }
+
+    private static void pairsThatWereFormed() {
+        Document.says(32, "@return the number of pairs that were formed");
+        IntercompanyLedger x = Ledgers.of(TWO);
+        Check.same("no item", x.match(), 0);
+        x.book(0, 1, 0, 1, 10);
+        x.book(1, 0, 1, 1, 10);
+        Check.same("a matched pair", x.match(), 1);
+        x.book(0, 1, 0, 2, 10);
+        x.book(1, 0, 1, 2, 99);
+        Check.same("a disputed pair; the first was formed before", x.match(), 1);
+        x.release(0);
+        x.release(2);
+        Check.same("both anew", x.match(), 2);
+        Check.same("none is left", x.match(), 0);
     }
 
     private static void fiftyPairs() {
@@ -428,10 +482,29 @@ final class ChangeEdges {
 
     // ---- promise 35
 
-    private static void leastAndMostRate() {
+    private static void valuesAtTheLimits() {
         Document.says(35, "Sets a rate.");
-        Document.says(35, "1 to 9999");
+        IntercompanyLedger x = Ledgers.of(TWO);
+        x.book(0, 1, 0, 5, 100);
+        x.setRate(0, 1);
+        Check.same("at the lowest rate", x.value(0), 1);
+        x.setRate(0, 9999);
+        Check.same("at the highest rate", x.value(0), 9999);
+    }
+
+    private static void previousRate() {
         Document.says(35, "Returns the previous rate.");
+        IntercompanyLedger x = Ledgers.of(TWO);
+        Check.same("that of the text", x.setRate(0, 5), 100);
+        Check.same("that of the call before", x.setRate(0, 5), 5);
+        Check.noArgument("refused", () -> x.setRate(0, 0));
+        Check.same("a refused rate is not the previous one", x.setRate(0, 6), 5);
+        x.undo();
+        Check.same("neither is an undone one", x.setRate(0, 7), 5);
+    }
+
+    private static void leastAndMostRate() {
+        Document.says(35, "`rate`: 1 to 9999");
         IntercompanyLedger x = Ledgers.of("currency 5;currency 6;currency 7;currency 8;");
         Check.same("the lowest", x.setRate(0, 1), 5);
         Check.same("the highest", x.setRate(0, 9999), 1);
@@ -483,10 +556,19 @@ final class ChangeEdges {
 
     // ---- promise 36
 
-    private static void leastAndMostTolerance() {
-        Document.says(36, "Sets the tolerance.");
-        Document.says(36, "0 to 1000000");
+    private static void previousTolerance() {
         Document.says(36, "Returns the previous one.");
+        IntercompanyLedger x = Ledgers.of(Ledgers.THREE);
+        Check.same("that of the text", x.setTolerance(5), 20);
+        Check.noArgument("refused", () -> x.setTolerance(-1));
+        Check.same("a refused one is not the previous one", x.setTolerance(6), 5);
+        x.undo();
+        Check.same("neither is an undone one", x.setTolerance(7), 5);
+        Check.same("without a statement", Ledgers.of("").setTolerance(1), 0);
+    }
+
+    private static void leastAndMostTolerance() {
+        Document.says(36, "`value`: 0 to 1000000");
         IntercompanyLedger x = Ledgers.of("tolerance 9999;");
         Check.same("the highest", x.setTolerance(1000000), 9999);
         Check.same("the lowest", x.setTolerance(0), 1000000);
@@ -517,6 +599,10 @@ final class ChangeEdges {
     }
 
     static void all() {
+        sides();
+        leastAndMostReference();
+        leastAndMostAmount();
+        firstToLastItem();
         leastAndMostBooked();
         bookNoSuch();
         bookAgainstItself();
@@ -527,6 +613,7 @@ final class ChangeEdges {
         cancelNoSuch();
         cancelNotOpen();
         matchWithoutPairs();
+        pairsThatWereFormed();
         fiftyPairs();
         ascendingReceivables();
         smallestDifference();
@@ -548,10 +635,13 @@ final class ChangeEdges {
         newAmountTooSmall();
         newAmountTooLarge();
         newAmountJustTooLarge();
+        valuesAtTheLimits();
+        previousRate();
         leastAndMostRate();
         statesStay();
         rateOfNone();
         rateOutOfRange();
+        previousTolerance();
         leastAndMostTolerance();
         toleranceOfPairs();
         toleranceOutOfRange();

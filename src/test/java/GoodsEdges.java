@@ -55,8 +55,23 @@ final class GoodsEdges {
 
     // ---- promise 24
 
-    private static void oldestPrices() {
+    private static void priceOrNone() {
         Document.says(24, "Returns the price of the oldest lot of the product; NONE if the company has no lot of it.");
+        IntercompanyLedger x = Ledgers.of(GOODS);
+        Check.same("no lot", x.oldestPrice(1, 0), NONE);
+        Check.same("the maker", x.oldestPrice(0, 0), NONE);
+        x.deliver(0, 0, 1, 1, 1);
+        x.deliver(0, 0, 1, 1, 99999);
+        Check.same("the lowest price", x.oldestPrice(1, 0), 1);
+        Check.same("another company", x.oldestPrice(2, 0), NONE);
+        Check.same("another product", x.oldestPrice(1, 1), NONE);
+        x.sell(1, 0, 1, 1);
+        Check.same("the highest price", x.oldestPrice(1, 0), 99999);
+        x.sell(1, 0, 1, 1);
+        Check.same("no lot any more", x.oldestPrice(1, 0), NONE);
+    }
+
+    private static void orderOfLots() {
         Document.says(TEXT, "Pieces are taken from the lots of a company in the order in which they came, and a lot without pieces is gone.");
         IntercompanyLedger x = twoLots();
         Check.same("no lot", x.oldestPrice(2, 0), NONE);
@@ -112,7 +127,6 @@ final class GoodsEdges {
 
     private static void afterSale() {
         Document.says(26, "Returns the unrealized profit of all lots of a company that would remain after a sale.");
-        Document.says(26, "0 to 9999");
         Document.says(26, "Returns the profit.");
         IntercompanyLedger x = twoLots();
         x.deliver(1, 1, 0, 4, 9);
@@ -127,6 +141,16 @@ final class GoodsEdges {
         Check.same("lots of the product that others have", x.unrealizedAfterSale(2, 1, 4), 0);
         Check.same("the most of lots", full().unrealizedAfterSale(1, 0, 9999), (99900L - 9999) * 99998);
         Twins.unchanged("unrealizedAfterSale(1, 0, 4)", y -> y.unrealizedAfterSale(1, 0, 4));
+    }
+
+    private static void afterLeastAndMost() {
+        Document.says(26, "`quantity`: 0 to 9999");
+        IntercompanyLedger x = full();
+        Check.same("nothing", x.unrealizedAfterSale(1, 0, 0), 99900L * 99998);
+        Check.same("the most of lots", x.unrealizedAfterSale(1, 0, 9999), (99900L - 9999) * 99998);
+        Check.same("nothing of the maker", x.unrealizedAfterSale(0, 0, 0), 0);
+        Check.same("the most of the maker", x.unrealizedAfterSale(0, 0, 9999), 0);
+        Check.same("nothing of nothing", twoLots().unrealizedAfterSale(2, 0, 0), 0);
     }
 
     private static void afterSaleNoSuch() {
@@ -246,12 +270,39 @@ final class GoodsEdges {
 
     // ---- promise 38
 
-    private static void leastAndMostDelivered() {
-        Document.says(38, "A company delivers pieces to another one.");
-        Document.says(38, "1 to 999");
-        Document.says(38, "1 to 99999");
+    private static void leastAndMostQuantity() {
+        Document.says(38, "`quantity`: 1 to 999");
+        IntercompanyLedger x = Ledgers.of(GOODS);
+        x.deliver(0, 0, 1, 1, 100);
+        Check.same("the least", x.stock(1, 0), 1);
+        x.deliver(0, 0, 1, 999, 100);
+        Check.same("the most", x.stock(1, 0), 1000);
+        x.deliver(0, 1, 2, 999, 100);
+        Check.same("the most from lots", x.stock(2, 0), 999);
+        x.deliver(0, 1, 2, 1, 100);
+        Check.same("the least from lots", x.stock(2, 0), 1000);
+    }
+
+    private static void leastAndMostPrice() {
+        Document.says(38, "`price`: 1 to 99999");
+        IntercompanyLedger x = Ledgers.of(GOODS);
+        x.deliver(0, 0, 1, 1, 1);
+        x.deliver(0, 0, 2, 1, 99999);
+        Check.same("the least", x.oldestPrice(1, 0), 1);
+        Check.same("the most", x.oldestPrice(2, 0), 99999);
+    }
+
+    private static void firstToLastDelivery() {
         Document.says(38, "Returns the number of the delivery.");
         Document.says(TEXT, "Deliveries are numbered from 0.");
+        IntercompanyLedger x = Ledgers.of(GOODS);
+        for (int delivery = 0; delivery < 100; delivery++) {
+            Check.same("delivery", x.deliver(delivery % 2, delivery % 2, 2, 1, 1), delivery);
+        }
+    }
+
+    private static void leastAndMostDelivered() {
+        Document.says(38, "A company delivers pieces to another one.");
         Document.says(TEXT, "The maker of a product is the company in its statement.");
         Document.says(TEXT, "It has any number of pieces; other companies have them in lots, each with a quantity and a price for a piece.");
         IntercompanyLedger x = Ledgers.of(GOODS);
@@ -355,8 +406,6 @@ final class GoodsEdges {
 
     private static void leastAndMostSold() {
         Document.says(39, "A company sells pieces outside of the group.");
-        Document.says(39, "1 to 9999");
-        Document.says(39, "1 to 99999");
         Document.says(39, "Returns what the group realizes by it.");
         Document.says(TEXT, "When a company sells pieces outside of the group, the group realizes the quantity times the difference of the price of the sale minus the cost.");
         IntercompanyLedger x = twoLots();
@@ -372,6 +421,23 @@ final class GoodsEdges {
         y.sell(1, 0, 9999, 99999);
         y.sell(1, 0, 9999, 99999);
         Check.same("beyond int", y.total(6), 3 * 9999L * 99998);
+    }
+
+    private static void leastAndMostSaleQuantity() {
+        Document.says(39, "`quantity`: 1 to 9999");
+        IntercompanyLedger x = full();
+        Check.same("the least of the maker", x.sell(0, 0, 1, 2), 1);
+        Check.same("the most of the maker", x.sell(0, 0, 9999, 2), 9999);
+        Check.same("the least of lots", x.sell(1, 0, 1, 2), 1);
+        Check.same("the most of lots", x.sell(1, 0, 9999, 2), 9999);
+        Check.same("what is left", x.stock(1, 0), 99900 - 10000);
+    }
+
+    private static void leastAndMostSalePrice() {
+        Document.says(39, "`price`: 1 to 99999");
+        IntercompanyLedger x = twoLots();
+        Check.same("the least", x.sell(1, 0, 1, 1), -99);
+        Check.same("the most", x.sell(1, 0, 1, 99999), 99899);
     }
 
     private static void sellNoSuch() {
@@ -407,11 +473,13 @@ final class GoodsEdges {
     static void all() {
         stocks();
         noSuchStock();
-        oldestPrices();
+        priceOrNone();
+        orderOfLots();
         noSuchOldestPrice();
         unrealized();
         noSuchUnrealized();
         afterSale();
+        afterLeastAndMost();
         afterSaleNoSuch();
         afterSaleOutOfRange();
         afterSaleOfTooMany();
@@ -426,6 +494,9 @@ final class GoodsEdges {
     }
 
     private static void changes() {
+        leastAndMostQuantity();
+        leastAndMostPrice();
+        firstToLastDelivery();
         leastAndMostDelivered();
         deliveredFromLots();
         deliverNoSuch();
@@ -435,6 +506,8 @@ final class GoodsEdges {
         hundredDeliveries();
         refusedDeliveryChangesNothing();
         leastAndMostSold();
+        leastAndMostSaleQuantity();
+        leastAndMostSalePrice();
         sellNoSuch();
         sellOutOfRange();
         sellTooMany();

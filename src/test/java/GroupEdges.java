@@ -64,7 +64,6 @@ final class GroupEdges {
 
     private static void fullBuffer() {
         Document.says(2, "NONE, with nothing appended, if the buffer would have more than 600 bytes");
-        Document.says(TEXT, "The input buffer holds at most 600 bytes.");
         IntercompanyLedger x = new IntercompanyLedger();
         for (int length = 20; length <= 600; length += 20) {
             Check.same("append", x.append(SPACES, SPACES, SPACES, SPACES, SPACES), length);
@@ -78,6 +77,18 @@ final class GroupEdges {
         IntercompanyLedger y = fullBuffer("x");
         Check.same("full", y.append(SPACES, SPACES, SPACES, SPACES, SPACES), NONE);
         Check.same("the first byte stands", y.parse(600), Ledgers.error(0, 1));
+    }
+
+    private static void sixHundredBytes() {
+        Document.says(TEXT, "The input buffer holds at most 600 bytes.");
+        IntercompanyLedger x = new IntercompanyLedger();
+        int length = 0;
+        for (int time = 0; time < 40; time++) {
+            length = Math.max(length, x.append(SPACES, SPACES, SPACES, SPACES, SPACES));
+        }
+        Check.same("the most", length, 600);
+        Check.noArgument("more than the most", () -> x.parse(601));
+        Check.same("all of them", x.parse(600), 0);
     }
 
     private static void lastPlace() {
@@ -257,8 +268,6 @@ final class GroupEdges {
     private static void products() {
         Document.says(7, "0: its maker; 1: its cost; 2: the lower bound of its band; 3: the upper bound");
         Document.says(7, "Returns the property.");
-        Document.says(TEXT, "The band of a product goes from cost + cost * low / 100 to cost + cost * high / 100.");
-        Document.says(TEXT, "All divisions truncate toward 0.");
         IntercompanyLedger x = Ledgers.of("currency 1;company 0;company 0;product 0 1 0 0;product 1 9999 99 999;"
                 + "product 1 1 99 99;product 0 1 99 100;product 0 199 50 51;product 1 100 0 999;");
         int[][] due = {{0, 1, 1, 1}, {1, 9999, 19898, 109889}, {1, 1, 1, 1}, {0, 1, 1, 2}, {0, 199, 298, 300}, {1, 100, 100, 1099}};
@@ -267,6 +276,33 @@ final class GroupEdges {
                 Check.same("product " + product + " " + what, x.product(product, what), due[product][what]);
             }
         }
+    }
+
+    private static void bands() {
+        Document.says(TEXT, "The band of a product goes from cost + cost * low / 100 to cost + cost * high / 100.");
+        IntercompanyLedger x = Ledgers.of("currency 1;company 0;product 0 100 0 0;product 0 100 99 99;product 0 100 0 999;"
+                + "product 0 9999 99 999;");
+        int[][] due = {{100, 100}, {199, 199}, {100, 1099}, {19898, 109889}};
+        for (int product = 0; product < 4; product++) {
+            Check.same("lower bound " + product, x.product(product, 2), due[product][0]);
+            Check.same("upper bound " + product, x.product(product, 3), due[product][1]);
+        }
+    }
+
+    private static void truncation() {
+        Document.says(TEXT, "All divisions truncate toward 0.");
+        IntercompanyLedger x = Ledgers.of("currency 99;currency 7;company 0;company 1;product 0 1 99 99;product 0 199 1 99;");
+        Check.same("a bound of 1.99", x.product(0, 2), 1);
+        Check.same("a bound of 200.99", x.product(1, 2), 200);
+        Check.same("a bound of 396.01", x.product(1, 3), 396);
+        x.book(0, 1, 0, 1, 1);
+        x.book(0, 1, 0, 2, 101);
+        x.book(1, 0, 1, 2, 1);
+        Check.same("a value of 0.99", x.value(0), 0);
+        Check.same("a value of 99.99", x.value(1), 99);
+        x.match();
+        Check.same("an amount of 1414.28", x.accept(1), 1414);
+        Check.same("a value of 98.98", x.value(2), 98);
     }
 
     private static void noSuchProduct() {
@@ -551,6 +587,7 @@ final class GroupEdges {
         newObject();
         orderOfBytes();
         fullBuffer();
+        sixHundredBytes();
         lastPlace();
         bytesBehindLength();
         shortestAndLongest();
@@ -566,6 +603,8 @@ final class GroupEdges {
         currencies();
         noSuchCompany();
         products();
+        bands();
+        truncation();
         noSuchProduct();
         productOutOfRange();
         texts();

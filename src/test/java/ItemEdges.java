@@ -106,9 +106,7 @@ final class ItemEdges {
     }
 
     private static void values() {
-        Document.says(10, "Returns its value.");
         Document.says(TEXT, "The value of an amount is amount * rate / 100, by the present rate of the currency of the company that has booked the item.");
-        Document.says(TEXT, "All divisions truncate toward 0.");
         Document.says(TEXT, "Amounts of a company are in its currency; values, costs and prices are in the currency of the group.");
         IntercompanyLedger x = Ledgers.of("currency 1;currency 9999;company 0;company 1;");
         x.book(0, 1, 0, 1, 99);

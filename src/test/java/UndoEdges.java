@@ -171,10 +171,25 @@ final class UndoEdges {
 
     // ---- promise 41
 
-    private static void slots() {
-        Document.says(41, "0 or 1");
-        Document.says(41, "Returns true; false if there is no such slot.");
+    private static void twoSlots() {
+        Document.says(41, "`slot`: 0 or 1");
         Document.says(TEXT, "There are two snapshot slots, 0 and 1");
+        IntercompanyLedger x = changed(1);
+        x.saveSnapshot(0);
+        x.setRate(0, 2);
+        x.saveSnapshot(1);
+        x.setRate(0, 3);
+        Check.same("a third", x.saveSnapshot(2), false);
+        x.restoreSnapshot(0);
+        Check.same("slot 0", x.rate(0), 1);
+        x.restoreSnapshot(1);
+        Check.same("slot 1", x.rate(0), 2);
+        Check.same("no third", x.restoreSnapshot(2), false);
+        Check.same("nothing changed", x.rate(0), 2);
+    }
+
+    private static void savedOrNot() {
+        Document.says(41, "Returns true; false if there is no such slot.");
         IntercompanyLedger x = changed(1);
         Check.same("slot 0", x.saveSnapshot(0), true);
         Check.same("slot 1", x.saveSnapshot(1), true);
@@ -255,7 +270,6 @@ final class UndoEdges {
     // ---- promise 42
 
     private static void emptyAndMissingSlots() {
-        Document.says(42, "0 or 1");
         Document.says(42, "Returns true; false, with nothing changed, if there is no such slot or it is empty.");
         IntercompanyLedger x = Ledgers.of(Ledgers.THREE);
         for (int slot : new int[] {0, 1, -1, 2, Integer.MAX_VALUE, Integer.MIN_VALUE}) {
@@ -268,6 +282,19 @@ final class UndoEdges {
         Twins.unchanged("restore of an empty slot", y -> y.restoreSnapshot(1));
         Twins.unchanged("restore of slot 2", y -> y.restoreSnapshot(2));
         Twins.unchanged("restore of slot -1", y -> y.restoreSnapshot(-1));
+    }
+
+    private static void bothSlotsAreRestored() {
+        Document.says(42, "`slot`: 0 or 1");
+        for (int slot = 0; slot <= 1; slot++) {
+            IntercompanyLedger x = changed(1);
+            x.saveSnapshot(slot);
+            x.setRate(0, 2);
+            Check.same("the other one is empty", x.restoreSnapshot(1 - slot), false);
+            Check.same("nothing changed", x.rate(0), 2);
+            Check.same("slot " + slot, x.restoreSnapshot(slot), true);
+            Check.same("rate", x.rate(0), 1);
+        }
     }
 
     private static void historyIsCleared() {
@@ -368,11 +395,13 @@ final class UndoEdges {
         refusedCalls();
         parseIsNoChange();
         parseOfTheSameText();
-        slots();
+        twoSlots();
+        savedOrNot();
         inPlaceOfTheFormer();
         fullRowsThenFewer();
         everythingThatChanges();
         emptyAndMissingSlots();
+        bothSlotsAreRestored();
         historyIsCleared();
         snapshotStays();
         otherRowsInEachSlot();
